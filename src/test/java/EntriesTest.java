@@ -9,7 +9,6 @@ public final class EntriesTest {
         promise2AddNumbers();
         promise2AddTakesTheEdges();
         promise2AddRefusesArguments();
-        promise2AddRefusesTheSeventeenth();
         promise2AddRefusesTheSixtyFirst();
         promise2AddWhenLocked();
         promise3Remove();
@@ -75,18 +74,6 @@ public final class EntriesTest {
             check.refused("tries " + tries[i], x, Check.ARGUMENT, () -> x.add(0, 0, 0, 1, tries[at]));
         }
         check.due("a refused add uses no number", x.add(0, 0, 0, PLAIN, 1), 1);
-    }
-
-    private static void promise2AddRefusesTheSeventeenth() {
-        BootChooser x = new BootChooser();
-        for (int i = 0; i < 16; i++) {
-            x.add(0, i, 0, PLAIN, NONE);
-        }
-        check.refused("the 17th", x, Check.STATE, () -> x.add(0, 0, 0, PLAIN, NONE));
-        check.refused("the 17th, wrong", x, Check.ARGUMENT, () -> x.add(3, 0, 0, PLAIN, NONE));
-        x.remove(7);
-        check.due("one in the place of another", x.add(0, 0, 0, PLAIN, NONE), 16);
-        check.refused("the 17th again", x, Check.STATE, () -> x.add(0, 0, 0, PLAIN, NONE));
     }
 
     private static void promise2AddRefusesTheSixtyFirst() {

@@ -13,17 +13,6 @@ public final class MeasuresTest {
         check.end();
     }
 
-    /** The chain by the document's words, in numbers without an end. */
-    private static int chain(int... numbers) {
-        java.math.BigInteger register = java.math.BigInteger.ZERO;
-        for (int number : numbers) {
-            register = register.multiply(java.math.BigInteger.valueOf(31))
-                    .add(java.math.BigInteger.valueOf(number + 7L))
-                    .mod(java.math.BigInteger.valueOf(1000003));
-        }
-        return register.intValueExact();
-    }
-
     private static void promise20Foretold() {
         BootChooser x = new BootChooser();
         x.add(0, 5, 1002003, BootChooser.LATER, 1);
@@ -31,10 +20,10 @@ public final class MeasuresTest {
         x.add(1, 0, 0, PLAIN, 0);
         x.add(1, 17, 12345678, PLAIN, 3);
         check.due("foretold(0)", x.foretold(0), 879268);
-        check.due("foretold(0)", x.foretold(0), chain(0, 0, 1, 2, 3, 2, 5, 0));
-        check.due("foretold(1)", x.foretold(1), chain(0, 2, 999, 999, 999, 0, 99, 0));
-        check.due("foretold(2)", x.foretold(2), chain(0, 1, 0, 0, 0, 1, 0, 0));
-        check.due("foretold(3)", x.foretold(3), chain(0, 1, 12, 345, 678, 1, 17, 0));
+        check.due("foretold(0)", x.foretold(0), Measures.chain(0, 0, 1, 2, 3, 2, 5, 0));
+        check.due("foretold(1)", x.foretold(1), Measures.chain(0, 2, 999, 999, 999, 0, 99, 0));
+        check.due("foretold(2)", x.foretold(2), Measures.chain(0, 1, 0, 0, 0, 1, 0, 0));
+        check.due("foretold(3)", x.foretold(3), Measures.chain(0, 1, 12, 345, 678, 1, 17, 0));
         check.due("register() stays", x.register(), 0);
         check.due("tries(0) stays", x.tries(0), 1);
     }
@@ -43,13 +32,13 @@ public final class MeasuresTest {
         BootChooser x = new BootChooser();
         x.add(2, 8, 7006005, PLAIN, 3);
         x.edit(0, 99);
-        check.due("foretold(0), edited", x.foretold(0), chain(0, 2, 7, 6, 5, 1, 8, 99));
+        check.due("foretold(0), edited", x.foretold(0), Measures.chain(0, 2, 7, 6, 5, 1, 8, 99));
         x.lock(4, 1);
-        check.due("foretold(0), locked", x.foretold(0), chain(1, 2, 7, 6, 5, 1, 8, 99));
+        check.due("foretold(0), locked", x.foretold(0), Measures.chain(1, 2, 7, 6, 5, 1, 8, 99));
         x.start();
-        check.due("foretold(0) behind a start", x.foretold(0), chain(1, 2, 7, 6, 5, 1, 8, 99));
+        check.due("foretold(0) behind a start", x.foretold(0), Measures.chain(1, 2, 7, 6, 5, 1, 8, 99));
         x.enter(4);
-        check.due("foretold(0), unlocked", x.foretold(0), chain(0, 2, 7, 6, 5, 1, 8, 99));
+        check.due("foretold(0), unlocked", x.foretold(0), Measures.chain(0, 2, 7, 6, 5, 1, 8, 99));
     }
 
     private static void promise20ForetoldRefuses() {
@@ -71,12 +60,12 @@ public final class MeasuresTest {
         int foretold = x.foretold(0);
         x.start();
         check.due("register()", x.register(), foretold);
-        check.due("register()", x.register(), chain(0, 0, 1, 2, 3, 1, 5, 0));
+        check.due("register()", x.register(), Measures.chain(0, 0, 1, 2, 3, 1, 5, 0));
         x.lock(1, 1);
         x.start();
-        check.due("register() of another start", x.register(), chain(1, 1, 4, 5, 6, 1, 6, 0));
+        check.due("register() of another start", x.register(), Measures.chain(1, 1, 4, 5, 6, 1, 6, 0));
         x.start();
-        check.due("register() begins at 0 again", x.register(), chain(1, 1, 4, 5, 6, 1, 6, 0));
+        check.due("register() begins at 0 again", x.register(), Measures.chain(1, 1, 4, 5, 6, 1, 6, 0));
     }
 
     private static void promise21RegisterStays() {

@@ -3,7 +3,7 @@ import java.util.Comparator;
 import java.util.List;
 
 /** The document's words told a second time, with the Java library and without care for speed. */
-final class Model {
+final class Model implements Subject {
     static final class Entry {
         int number;
         int kind;
@@ -39,6 +39,43 @@ final class Model {
     private String code = null;
     private String digits = "";
     private long register = 0;
+
+    @Override
+    public String answer(String name, int... arguments) {
+        try {
+            return made(name, arguments);
+        } catch (RuntimeException e) {
+            return e.getClass().getSimpleName();
+        }
+    }
+
+    private String made(String name, int[] a) {
+        switch (name) {
+            case "add": return String.valueOf(add(a[0], a[1], a[2], a[3], a[4]));
+            case "remove": return String.valueOf(remove(a[0]));
+            case "edit": return String.valueOf(edit(a[0], a[1]));
+            case "choose": return String.valueOf(choose(a[0]));
+            case "chooseOnce": return String.valueOf(chooseOnce(a[0]));
+            case "setPattern": return String.valueOf(setPattern(a[0], a[1]));
+            case "start": return String.valueOf(start());
+            case "good": return String.valueOf(good());
+            case "running": return String.valueOf(running());
+            case "next": return String.valueOf(next());
+            case "lock":
+                lock(a[0], a[1]);
+                return "done";
+            case "enter": return String.valueOf(enter(a[0]));
+            case "isLocked": return String.valueOf(isLocked());
+            case "entries": return String.valueOf(entries());
+            case "at": return String.valueOf(at(a[0]));
+            case "placeOf": return String.valueOf(placeOf(a[0]));
+            case "tries": return String.valueOf(tries(a[0]));
+            case "compare": return String.valueOf(compare(a[0], a[1]));
+            case "foretold": return String.valueOf(foretold(a[0]));
+            case "register": return String.valueOf(register());
+            default: throw new AssertionError("there is no call " + name);
+        }
+    }
 
     int add(int kind, int name, int version, int mark, int tries) {
         argument(kind >= 0 && kind < 3 && name >= 0 && name < 100);
@@ -134,29 +171,28 @@ final class Model {
         return order.stream().filter(e -> fits(e) && e.tries != 0).findFirst().orElse(order.get(0)).number;
     }
 
-    int lock(int newCode, int many) {
+    void lock(int newCode, int many) {
         argument(many >= 1 && many <= 6 && newCode >= 0);
         String written = String.format("%0" + many + "d", newCode);
         argument(written.length() == many);
         state(code == null);
         code = written;
         digits = "";
-        return 0;
     }
 
-    int enter(int digit) {
+    boolean enter(int digit) {
         argument(digit >= 0 && digit <= 9);
         state(code != null && digits.length() < 12);
         digits += digit;
         if (digits.endsWith(code)) {
             code = null;
-            return 1;
+            return true;
         }
-        return 0;
+        return false;
     }
 
-    int isLocked() {
-        return code == null ? 0 : 1;
+    boolean isLocked() {
+        return code != null;
     }
 
     int entries() {
@@ -183,7 +219,7 @@ final class Model {
     int foretold(int entry) {
         Entry e = need(entry);
         long value = 0;
-        for (int n : new int[] {isLocked(), e.kind, e.version.get(0), e.version.get(1), e.version.get(2),
+        for (int n : new int[] {isLocked() ? 1 : 0, e.kind, e.version.get(0), e.version.get(1), e.version.get(2),
             e.version.get(3), e.name, e.option}) {
             value = Math.floorMod(value * 31 + n + 7, 1000003L);
         }

@@ -10,7 +10,6 @@ public final class OrderTest {
         promise15Entries();
         promise16At();
         promise16AtBadOnesAreLast();
-        promise16AtRefuses();
         promise17PlaceOf();
         promise17PlaceOfRefuses();
         promise18Tries();
@@ -59,22 +58,6 @@ public final class OrderTest {
         check.due("order, all bad", Check.order(x), "0 3 2 1");
         x.good();
         check.due("order", Check.order(x), "1 0 3 2");
-    }
-
-    private static void promise16AtRefuses() {
-        BootChooser x = new BootChooser();
-        check.refused("at(0) of none", x, Check.INDEX, () -> x.at(0));
-        for (int i = 0; i < 16; i++) {
-            x.add(0, 0, 0, PLAIN, NONE);
-            int beyond = i + 1;
-            check.due("the last one", x.at(i), i);
-            check.refused("at(" + beyond + ")", x, Check.INDEX, () -> x.at(beyond));
-        }
-        x.remove(0);
-        check.refused("at(15)", x, Check.INDEX, () -> x.at(15));
-        check.refused("at(-1)", x, Check.INDEX, () -> x.at(-1));
-        check.refused("at(MIN)", x, Check.INDEX, () -> x.at(Integer.MIN_VALUE));
-        check.refused("at(MAX)", x, Check.INDEX, () -> x.at(Integer.MAX_VALUE));
     }
 
     private static void promise17PlaceOf() {
