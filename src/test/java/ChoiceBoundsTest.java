@@ -11,6 +11,7 @@ public final class ChoiceBoundsTest {
         promise5TakesItAway();
         promise5TheChoiceBefore();
         promise5WhetherOrNotItsEntryIsThere();
+        promise5OneThatIsThere();
         promise5ABadOne();
         promise5NoSuchEntry();
         promise5Locked();
@@ -18,6 +19,7 @@ public final class ChoiceBoundsTest {
         promise6TakesItAway();
         promise6TheChoiceBefore();
         promise6WhetherOrNotItsEntryIsThere();
+        promise6OneThatIsThere();
         promise6NoSuchEntry();
         promise6AlsoWhenLocked();
         promise7From();
@@ -36,6 +38,15 @@ public final class ChoiceBoundsTest {
     private static Run three(String sentence) {
         return run(sentence).due(0, "add", 0, 10, 0, PLAIN, NONE).due(1, "add", 0, 20, 0, PLAIN, NONE)
                 .due(2, "add", 0, 30, 0, PLAIN, 1);
+    }
+
+    /** All places are taken, by the entries 1 to 16; the entry 0 is gone. */
+    private static Run sixteenBehindTheFirst(String sentence) {
+        Run run = run(sentence).due(0, "add", 0, 0, 0, PLAIN, NONE).due(0, "remove", 0);
+        for (int i = 1; i <= 16; i++) {
+            run.due(i, "add", 0, 0, 0, PLAIN, NONE);
+        }
+        return run;
     }
 
     private static void promise5MakesTheChoice() {
@@ -60,6 +71,12 @@ public final class ChoiceBoundsTest {
         Run run = three("whether or not its entry is there; NONE if there was none");
         run.due(NONE, "choose", 1).due(2, "remove", 1).due(1, "choose", 0).due(1, "remove", 0).due(0, "choose", NONE);
         run.due(NONE, "choose", 2).due(0, "remove", 2).due(2, "choose", NONE).due(NONE, "choose", NONE);
+    }
+
+    private static void promise5OneThatIsThere() {
+        Run run = sixteenBehindTheFirst("`entry`: an entry that is there, or NONE");
+        run.due(NONE, "choose", 1).due(1, "next").due(1, "choose", 16).due(16, "next").due(16, "choose", 9);
+        run.refusedFor(Check.INDEX, "choose", 0, 17, -2).due(9, "next").due(9, "choose", NONE).due(1, "next");
     }
 
     private static void promise5ABadOne() {
@@ -105,6 +122,12 @@ public final class ChoiceBoundsTest {
         run.due(NONE, "chooseOnce", 1).due(2, "remove", 1).due(1, "chooseOnce", 0).due(1, "remove", 0);
         run.due(0, "chooseOnce", NONE).due(NONE, "chooseOnce", 2).due(0, "remove", 2).due(2, "chooseOnce", NONE);
         run.due(NONE, "chooseOnce", NONE);
+    }
+
+    private static void promise6OneThatIsThere() {
+        Run run = sixteenBehindTheFirst("`entry`: an entry that is there, or NONE");
+        run.due(NONE, "chooseOnce", 1).due(1, "next").due(1, "chooseOnce", 16).due(16, "next").due(16, "chooseOnce", 9);
+        run.refusedFor(Check.INDEX, "chooseOnce", 0, 17, -2).due(9, "next").due(9, "chooseOnce", NONE).due(1, "next");
     }
 
     private static void promise6NoSuchEntry() {

@@ -21,6 +21,7 @@ public final class EntryBoundsTest {
         promise2Mark();
         promise2Tries();
         promise2AllEdgesAtOnce();
+        promise2AnArgumentIsOutOfRange();
         promise2ReturnsItsNumber();
         promise2SixteenEntries();
         promise2ThereWereSixty();
@@ -31,6 +32,7 @@ public final class EntryBoundsTest {
         promise3NoSuchEntry();
         promise4OneThatIsThere();
         promise4Option();
+        promise4OptionIsOutOfRange();
         promise4TheOptionBefore();
         promise4NoSuchEntry();
         promise4Locked();
@@ -128,6 +130,21 @@ public final class EntryBoundsTest {
         run.refused(Check.ARGUMENT, "add", 3, 100, 1000000000, 3, 10);
     }
 
+    private static void promise2AnArgumentIsOutOfRange() {
+        Run run = run("Throws `IllegalArgumentException` if an argument is out of range");
+        run.due(0, "add", 1, 1, 1, PLAIN, 1);
+        int[] lowest = {0, 0, 0, EARLIER, NONE};
+        int[] highest = {2, 99, 999999999, LATER, 9};
+        for (int i = 0; i < lowest.length; i++) {
+            int[] below = lowest.clone();
+            below[i]--;
+            int[] above = highest.clone();
+            above[i]++;
+            run.refused(Check.ARGUMENT, "add", below).refused(Check.ARGUMENT, "add", above);
+        }
+        run.due(1, "add", lowest).due(2, "add", highest).due(3, "entries");
+    }
+
     private static void promise2ReturnsItsNumber() {
         Run run = run("Returns its number");
         for (int i = 0; i < 16; i++) {
@@ -214,6 +231,19 @@ public final class EntryBoundsTest {
         run.refused(Check.ARGUMENT, "edit", 0, 100).refused(Check.ARGUMENT, "edit", 0, -1);
         run.refused(Check.ARGUMENT, "edit", 0, MIN).refused(Check.ARGUMENT, "edit", 0, MAX);
         run.due(99, "edit", 0, 0).due(Measures.chain(0, 0, 0, 0, 0, 1, 0, 0), "foretold", 0);
+    }
+
+    private static void promise4OptionIsOutOfRange() {
+        Run run = run("Throws `IllegalArgumentException` if option is out of range").due(0, "add", 0, 0, 0, PLAIN, 1);
+        run.due(0, "edit", 0, 50).lock(123, 3).enter("12", false);
+        for (int option : new int[] {-1, 100, MIN, MAX}) {
+            run.refused(Check.ARGUMENT, "edit", 0, option);
+        }
+        run.enter("3", true);
+        for (int option : new int[] {-1, 100, MIN, MAX}) {
+            run.refused(Check.ARGUMENT, "edit", 0, option);
+        }
+        run.due(50, "edit", 0, 0).due(0, "edit", 0, 99);
     }
 
     private static void promise4TheOptionBefore() {

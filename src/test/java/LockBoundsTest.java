@@ -16,6 +16,7 @@ public final class LockBoundsTest {
         promise12TheCodeHasMoreDigits();
         promise12ItIsLocked();
         promise13Digit();
+        promise13DigitIsOutOfRange();
         promise13WhetherItIsUnlocked();
         promise13ItIsNotLocked();
         promise13TwelveDigitsWereEntered();
@@ -104,6 +105,14 @@ public final class LockBoundsTest {
             run.refused(Check.ARGUMENT, "enter", digit);
         }
         run.enter("9", true);
+    }
+
+    private static void promise13DigitIsOutOfRange() {
+        Run run = run("Throws `IllegalArgumentException` if digit is out of range");
+        run.refusedFor(Check.ARGUMENT, "enter", -1, 10, MIN, MAX).lock(123, 3).enter("12", false);
+        run.refusedFor(Check.ARGUMENT, "enter", -1, 10, MIN, MAX).enter("000000012", false);
+        run.refusedFor(Check.ARGUMENT, "enter", -1, 10, MIN, MAX).enter("0", false);
+        run.refusedFor(Check.ARGUMENT, "enter", -1, 10, MIN, MAX).refused(Check.STATE, "enter", 3);
     }
 
     private static void promise13WhetherItIsUnlocked() {

@@ -62,7 +62,8 @@ public final class LockTermsTest {
 
     private static void theDigitsThatWereEnteredLast() {
         String[][] opened = {{"12", "112"}, {"12", "2312"}, {"123", "12123"}, {"0", "10"}, {"9", "89"},
-            {"100", "110100"}, {"112", "1112"}, {"999999", "8999999"}, {"123456", "12345123456"}, {"001", "0001"}, {"121", "1121"}};
+            {"100", "110100"}, {"112", "1112"}, {"999999", "8999999"}, {"123456", "12345123456"},
+            {"001", "0001"}, {"121", "1121"}};
         for (String[] one : opened) {
             Run run = run("the digits that were entered last, as many as the code has, are held against it");
             run.lock(Integer.parseInt(one[0]), one[0].length()).enter(one[1], true);

@@ -97,7 +97,7 @@ final class Probes {
         tell(x, text, "chooseOnce", -1);
         tell(x, text, "choose", -1);
         for (int i = 0; i < NAMES.length; i++) {
-            tell(x, text, "add", 0, NAMES[i], NAMES.length - i, 1, -1);
+            tell(x, text, "foretold", tell(x, text, "add", 0, NAMES[i], NAMES.length - i, 1, -1));
         }
         nextOnes(x, text);
     }

@@ -26,6 +26,8 @@ final class Scenes {
         scenes.put("all bad", allBad());
         scenes.put("choices and what runs are gone", gone());
         scenes.put("gone and locked", with(gone(), new Call("lock", 999999, 6)));
+        List<Call> allGone = with(gone(), new Call("remove", 3), new Call("remove", 4));
+        scenes.put("all are gone, locked, two digits entered", with(allGone, entered(new Call("lock", 123, 3), 1, 2)));
         scenes.put("sixty ever, none left", sixtyEver(0));
         scenes.put("sixty ever, one left", sixtyEver(1));
         scenes.put("sixty ever, all places taken", sixtyEver(16));

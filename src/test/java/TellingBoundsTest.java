@@ -11,16 +11,21 @@ public final class TellingBoundsTest {
     public static void main(String[] args) {
         promise15HowMany();
         promise16Place();
+        promise16FromZero();
         promise16NotSoMany();
         promise17ThoseThatComeAhead();
+        promise17OneThatIsThere();
         promise17NoSuchEntry();
         promise18ZeroToNine();
         promise18NoneIfNotCounted();
+        promise18OneThatIsThere();
         promise18NoSuchEntry();
         promise19LaterEarlierTheSame();
+        promise19BothAreThere();
         promise19NoSuchEntryOfEither();
         promise20BehindAStartNow();
         promise20OfEachEntry();
+        promise20OneThatIsThere();
         promise20NoSuchEntry();
         promise21AsTheLatestStartLeftIt();
         promise21BehindARefusedStart();
@@ -36,6 +41,18 @@ public final class TellingBoundsTest {
             run.due(i, "add", 0, 15 - i, 0, PLAIN, 1);
         }
         return run;
+    }
+
+    /** There were 60, and the last 16 are there: all places are taken, and all numbers are used. */
+    private static Run lastNumbers(String sentence) {
+        Run run = run(sentence);
+        for (int i = 0; i < 60; i++) {
+            if (i >= 16) {
+                run.due(15, "remove", i - 16);
+            }
+            run.due(i, "add", 0, i, 100 - i, PLAIN, i % 10);
+        }
+        return run.due(16, "entries");
     }
 
     private static void promise15HowMany() {
@@ -55,6 +72,11 @@ public final class TellingBoundsTest {
         }
         run.due(15, "start").due(14, "at", 0).due(15, "at", 15).due(15, "remove", 14).due(13, "at", 0)
                 .due(15, "at", 14);
+    }
+
+    private static void promise16FromZero() {
+        Run run = run("`place`: from 0").due(0, "add", 0, 0, 0, PLAIN, 0).refusedFor(Check.INDEX, "at", -1, MIN);
+        run.due(0, "at", 0).due(1, "add", 0, 0, 0, PLAIN, 1).due(1, "at", 0).due(0, "at", 1);
     }
 
     private static void promise16NotSoMany() {
@@ -80,6 +102,12 @@ public final class TellingBoundsTest {
         run.due(0, "placeOf", 15).due(15, "remove", 15).due(0, "placeOf", 14).due(14, "placeOf", 0);
     }
 
+    private static void promise17OneThatIsThere() {
+        Run run = lastNumbers("`entry`: an entry that is there").refusedFor(Check.INDEX, "placeOf", 0, 43, 60, NONE);
+        // The entry 50 is bad.
+        run.due(0, "placeOf", 44).due(14, "placeOf", 59).due(15, "placeOf", 50);
+    }
+
     private static void promise17NoSuchEntry() {
         noSuchEntry("placeOf");
     }
@@ -96,6 +124,11 @@ public final class TellingBoundsTest {
         run.due(2, "tries", 1).due(2, "good").due(NONE, "tries", 1).due(NONE, "tries", 0);
     }
 
+    private static void promise18OneThatIsThere() {
+        Run run = lastNumbers("`entry`: an entry that is there").refusedFor(Check.INDEX, "tries", 0, 43, 60, NONE);
+        run.due(4, "tries", 44).due(9, "tries", 59);
+    }
+
     private static void promise18NoSuchEntry() {
         noSuchEntry("tries");
     }
@@ -108,6 +141,12 @@ public final class TellingBoundsTest {
         run.due(1, "compare", 1, 0).due(-1, "compare", 0, 1).due(0, "compare", 0, 2).due(0, "compare", 2, 0);
         run.due(0, "compare", 1, 3).due(0, "compare", 3, 1).due(0, "compare", 0, 0).due(0, "compare", 1, 1);
         run.due(-1, "compare", 2, 3).due(1, "compare", 3, 2);
+    }
+
+    private static void promise19BothAreThere() {
+        Run run = lastNumbers("`other`: an entry that is there").due(1, "compare", 44, 59).due(-1, "compare", 59, 44);
+        run.refused(Check.INDEX, "compare", 44, 43).refused(Check.INDEX, "compare", 43, 44);
+        run.refused(Check.INDEX, "compare", 59, 60).refused(Check.INDEX, "compare", 60, 59).due(0, "compare", 59, 59);
     }
 
     private static void promise19NoSuchEntryOfEither() {
@@ -138,6 +177,12 @@ public final class TellingBoundsTest {
         int other = Measures.chain(0, 2, 999, 999, 999, 2, 99, 0);
         run.due(other, "foretold", 1).due(311715, "foretold", 0).due(0, "start").due(311715, "register");
         run.due(NONE, "chooseOnce", 1).due(1, "start").due(other, "register");
+    }
+
+    private static void promise20OneThatIsThere() {
+        Run run = lastNumbers("`entry`: an entry that is there").refusedFor(Check.INDEX, "foretold", 0, 43, 60, NONE);
+        run.due(Measures.chain(0, 0, 0, 0, 56, 1, 44, 0), "foretold", 44);
+        run.due(Measures.chain(0, 0, 0, 0, 41, 1, 59, 0), "foretold", 59);
     }
 
     private static void promise20NoSuchEntry() {
